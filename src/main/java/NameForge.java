@@ -557,16 +557,13 @@ public final class NameForge {
             return result;
         }
 
+        // What is set needs no look at its size: no node's value can be beyond 1e9, since 3 to 6 and put refuse it.
         private double set(int n, Environment here, int depth) {
             int target = program.as[n];
             if (!program.canBeSet(target)) {
                 return fail(NOT_TO_BE_SET);
             }
             double v = value(program.bs[n], here, depth + 1);
-            if (leaving()) {
-                return 0;
-            }
-            limited(v);
             return leaving() ? 0 : become(target, v, here, depth);
         }
 

@@ -54,9 +54,10 @@ final class AnyProgramTest {
         oracle.bounds = new int[] {low, high, low2, high2};
     }
 
-    /** A small number, a late node now and then, so that programs are deep as well as wide. */
+    /** Mostly one of the latest nodes, so that programs are deep as well as wide. */
     private int anyNode() {
-        return random.nextInt(3) == 0 ? random.nextInt(oracle.size) : oracle.size - 1 - random.nextInt(Math.min(oracle.size, 8));
+        int latest = oracle.size - 1 - random.nextInt(Math.min(oracle.size, 8));
+        return random.nextInt(3) == 0 ? random.nextInt(oracle.size) : latest;
     }
 
     private int anySettable() {

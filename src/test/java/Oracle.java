@@ -43,9 +43,9 @@ final class Oracle {
     final int[] names = new int[4];
     final double[] variables = new double[8];
     int[] bounds = {1, 1, 1, 1};
-    double[][] table = new double[19][19];
+    final double[][] table = new double[19][19];
 
-    /** The answers of count, by its number; what of each is open now stands beside them. */
+    /** The answers of count about the latest work, by its number. */
     final int[] counts = new int[7];
     private final int[] openLabels = new int[4];
 

@@ -111,6 +111,7 @@ final class Promise06JumpsTest {
         f.x.procedure(0, mark, 2, 0);
         f.gives("out of a first parameter by value", 0, f.label(2, call));
         f.holds("neither the second nor the body", 4, 0);
+        f.counts("neither the second nor the body", 2, 3);
         f.counts("no body began", 4, 0);
         f.gives("out of a second parameter by value", 0, f.label(2, f.call(0, f.num(1), jump)));
         f.holds("the body does not begin", 4, 0);

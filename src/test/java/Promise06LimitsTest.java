@@ -8,7 +8,7 @@ final class Promise06LimitsTest {
         valuesComeBeforeTheirCall();
         valuesOfARefusedCall();
         nodesOneInAnother();
-        rowsAndColumnsOfSet();
+        partsOfEachKind();
         nodesWorkedOut();
         Check.end();
     }
@@ -137,20 +137,60 @@ final class Promise06LimitsTest {
         deep.faults("81 nodes", 7, under78(deep, three));
         deep.counts("the 81st is not worked out", 2, 81);
         deep.counts("81 nodes", 5, 4);
+        Forge jump = new Forge();
+        jump.faults("a jump as the 81st", 7, under78(jump, jump.label(0, jump.then(jump.jump(0), jump.num(1)))));
+        jump.counts("it did not come to its label", 6, 0);
     }
 
-    /** SET stands as the 79th: its value, row and column are the 80th, for a itself is not worked out. */
-    private static void rowsAndColumnsOfSet() {
-        Forge f = new Forge();
-        int one = f.num(1);
-        f.gives("row and column as the 80th", 1, under78(f, f.set(f.elem(one, one), one)));
-        Check.due("element(1, 1)", 1, () -> f.x.element(1, 1));
-        Forge g = new Forge();
-        int two = g.num(2);
-        g.faults("a row with an 81st", 7, under78(g, g.set(g.elem(g.sub(two, two), two), two)));
-        Forge h = new Forge();
-        int three = h.num(3);
-        h.faults("a column with an 81st", 7, under78(h, h.set(h.elem(three, h.sub(three, three)), three)));
+    private interface Shape {
+        int around(Forge f, int part);
+    }
+
+    private static void partsOfEachKind() {
+        for (int kind = 2; kind <= 8; kind++) {
+            int k = kind;
+            onePart("a of kind " + k, 0, (f, part) -> f.x.make(k, part, f.num(1), -1));
+            onePart("b of kind " + k, 0, (f, part) -> f.x.make(k, f.num(1), part, -1));
+        }
+        onePart("a of IF", 0, (f, part) -> f.iff(part, f.num(1), f.num(2)));
+        onePart("b of IF", 0, (f, part) -> f.iff(f.num(1), part, f.num(2)));
+        onePart("c of IF", 0, (f, part) -> f.iff(f.num(0), f.num(2), part));
+        onePart("the first value of CALL", 0, (f, part) -> {
+            f.x.procedure(1, f.num(1), 1, 0);
+            return f.call(1, part);
+        });
+        onePart("the second value of CALL", 0, (f, part) -> {
+            f.x.procedure(1, f.num(1), 2, 0);
+            return f.call(1, f.num(1), part);
+        });
+        onePart("the body of CALL", 0, (f, part) -> {
+            f.x.procedure(1, part, 0, 0);
+            return f.call(1);
+        });
+        onePart("b of SET", 0, (f, part) -> f.set(f.var(6), part));
+        onePart("the row of SET", 0, (f, part) -> f.set(f.elem(part, f.num(1)), f.num(1)));
+        onePart("the column of SET", 0, (f, part) -> f.set(f.elem(f.num(1), part), f.num(1)));
+        onePart("a of THEN", 0, (f, part) -> f.then(part, f.num(1)));
+        onePart("b of THEN", 0, (f, part) -> f.then(f.num(1), part));
+        onePart("b of LABEL", 0, (f, part) -> f.label(2, part));
+        onePart("a of WHILE without an end", 8, (f, part) -> f.loop(part, f.num(1)));
+        onePart("b of WHILE without an end", 8, (f, part) -> f.loop(f.num(1), part));
+    }
+
+    /** The shape stands as the 79th: its part fits as the 80th, but not with an 81st inside of it. */
+    private static void onePart(String what, int dueFault, Shape shape) {
+        Forge fits = new Forge();
+        fits.x.put(4, 1);
+        int n = under78(fits, shape.around(fits, fits.var(4)));
+        if (dueFault == 0) {
+            Check.passes(what + " as the 80th", () -> fits.x.work(n));
+        } else {
+            fits.faults(what + " as the 80th", dueFault, n);
+        }
+        Forge deep = new Forge();
+        deep.x.put(4, 1);
+        int sum = deep.add(deep.var(4), deep.var(5));
+        deep.faults(what + " with an 81st", 7, under78(deep, shape.around(deep, sum)));
     }
 
     /** A loop of 42 turns is 4 + 7 * 42 = 298 nodes. */
@@ -175,6 +215,9 @@ final class Promise06LimitsTest {
         f.x.put(0, 0);
         f.faults("a value that is the 301st", 8, f.then(loop, call));
         f.counts("its body did not begin", 4, 0);
+        f.x.put(0, 0);
+        f.faults("a jump that is the 301st", 8, f.label(0, f.then(loop, f.jump(0))));
+        f.counts("it did not come to its label", 6, 0);
         f.gives("the next work is new", 3, call);
         f.counts("the next work is new", 2, 3);
     }

@@ -41,6 +41,7 @@ final class Promise06SetTest {
         f.x.put(4, 0);
         f.faults("a row that fails", 1, f.set(f.elem(bad, column), value));
         f.holds("no column behind it", 4, 1);
+        f.counts("no column behind it", 2, 1 + 8 + 3);
         f.x.put(4, 0);
         f.faults("a value that fails", 1, f.set(f.elem(row, column), bad));
         f.holds("no row behind it", 4, 0);
@@ -124,7 +125,6 @@ final class Promise06SetTest {
                 f.x.procedure(0, f.set(f.par(0), mark), 1, 1);
                 f.faults("SET of kind " + kind + " by name", 6, f.call(0, n));
                 f.holds("SET of kind " + kind + " by name: b is worked out before", 4, 1);
-                f.x.procedure(0, f.set(f.par(0), mark), 1, 0);
             }
         }
     }

@@ -129,7 +129,7 @@ final class Promise06ValuesTest {
         int bad = f.over(f.num(1), f.num(0));
         f.x.put(6, 0);
         f.faults("a test that fails", 1, f.iff(bad, choice, choice));
-        f.holds("no branch behind it", 6, 0);
+        f.counts("no branch behind it", 2, 4);
     }
 
     private static void sequencesAndLoops() {
@@ -146,7 +146,9 @@ final class Promise06ValuesTest {
         f.counts("a loop without a turn", 2, 4);
         int bad = f.over(i, f.num(0));
         f.faults("a loop whose test fails", 1, f.loop(bad, i));
+        f.counts("no turn behind it", 2, 4);
         f.faults("a loop whose turn fails", 1, f.loop(i, bad));
+        f.counts("no test behind it", 2, 5);
         f.x.put(4, 0);
         f.faults("a sequence whose first fails", 1, f.then(bad, f.set(f.var(4), i)));
         f.holds("no second behind it", 4, 0);
