@@ -85,6 +85,57 @@ final class Forge {
         return set(v, add(mul(v, num(10)), num(digit)));
     }
 
+    /**
+     * So many nodes one in another, in four environments, and the given one inside of them: procedure 0 is labels
+     * around its parameter by name, and a call of it is given such a call again. (Takes half as many nodes.)
+     */
+    int under(int nodes, int given) {
+        int chain = par(0);
+        for (int i = 0; i < nodes / 2 - 2; i++) {
+            chain = label(3, chain);
+        }
+        x.procedure(0, chain, 1, 1);
+        int all = underAgain(given);
+        return nodes % 2 == 0 ? all : label(3, all);
+    }
+
+    /** The same once more, for an even number of nodes, when procedure 0 is made already. */
+    int underAgain(int given) {
+        return call(0, call(0, given));
+    }
+
+    /** Always fails, with fault 1. */
+    int bad() {
+        int zero = num(0);
+        return over(zero, zero);
+    }
+
+    /** A node that fails with this fault; for fault 7, procedure 3 becomes one that calls itself for ever. */
+    int thatFails(int fault) {
+        int zero = num(0);
+        switch (fault) {
+            case 1:
+                return over(zero, zero);
+            case 2:
+                return mul(num(100000), num(100000));
+            case 3:
+                return elem(num(-9), zero);
+            case 4:
+                return call(2);
+            case 5:
+                return jump(3);
+            case 6:
+                return set(zero, zero);
+            case 7: {
+                int again = call(3);
+                x.procedure(3, again, 0, 0);
+                return again;
+            }
+            default:
+                return loop(num(1), zero);
+        }
+    }
+
     void gives(String what, double want, int n) {
         Check.due(what, want, () -> x.work(n));
         counts(what, 3, 0);
@@ -101,6 +152,25 @@ final class Forge {
 
     void holds(String what, int i, double want) {
         Check.due(what + ": variable(" + i + ")", want, () -> x.variable(i));
+    }
+
+    /** Which of its parts a, b, c (0, 1, 2) are nodes that must be there; those of CALL may be none as well. */
+    static int[] nodesAmongPartsOf(int kind) {
+        switch (kind) {
+            case 0:
+            case 1:
+            case 10:
+            case 11:
+            case 12:
+            case 16:
+                return new int[] {};
+            case 9:
+                return new int[] {0, 1, 2};
+            case 17:
+                return new int[] {1};
+            default:
+                return new int[] {0, 1};
+        }
     }
 
     static Class<?> exceptionOf(int fault) {

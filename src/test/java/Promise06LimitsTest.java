@@ -8,7 +8,6 @@ final class Promise06LimitsTest {
         valuesComeBeforeTheirCall();
         valuesOfARefusedCall();
         nodesOneInAnother();
-        partsOfEachKind();
         nodesWorkedOut();
         Check.end();
     }
@@ -112,85 +111,20 @@ final class Promise06LimitsTest {
         f.holds("its value is worked out before it is refused", 4, 11111111);
     }
 
-    /**
-     * A call of a chain of 37 sums over a parameter by name, which is such a call again: 2 * 39 nodes one in
-     * another, with what is given inside of them.
-     */
-    private static int under78(Forge f, int given) {
-        int zero = f.num(0);
-        int chain = f.par(0);
-        for (int i = 0; i < 37; i++) {
-            chain = f.add(chain, zero);
-        }
-        f.x.procedure(0, chain, 1, 1);
-        return f.call(0, f.call(0, given));
-    }
-
     private static void nodesOneInAnother() {
         Forge fits = new Forge();
-        fits.gives("79 nodes", 3, under78(fits, fits.num(3)));
+        fits.gives("79 nodes", 3, fits.under(78, fits.num(3)));
         fits = new Forge();
-        fits.gives("80 nodes", 5, under78(fits, fits.add(fits.num(3), fits.num(2))));
-        fits.counts("80 nodes, and what the sums add", 2, 80 + 37 + 37 + 1);
+        fits.gives("80 nodes", 5, fits.under(78, fits.add(fits.num(3), fits.num(2))));
+        fits.counts("80 nodes one in another, and one beside", 2, 81);
         Forge deep = new Forge();
         int three = deep.add(deep.num(1), deep.add(deep.num(1), deep.num(1)));
-        deep.faults("81 nodes", 7, under78(deep, three));
+        deep.faults("81 nodes", 7, deep.under(78, three));
         deep.counts("the 81st is not worked out", 2, 81);
         deep.counts("81 nodes", 5, 4);
         Forge jump = new Forge();
-        jump.faults("a jump as the 81st", 7, under78(jump, jump.label(0, jump.then(jump.jump(0), jump.num(1)))));
+        jump.faults("a jump as the 81st", 7, jump.under(78, jump.label(0, jump.then(jump.jump(0), jump.num(1)))));
         jump.counts("it did not come to its label", 6, 0);
-    }
-
-    private interface Shape {
-        int around(Forge f, int part);
-    }
-
-    private static void partsOfEachKind() {
-        for (int kind = 2; kind <= 8; kind++) {
-            int k = kind;
-            onePart("a of kind " + k, 0, (f, part) -> f.x.make(k, part, f.num(1), -1));
-            onePart("b of kind " + k, 0, (f, part) -> f.x.make(k, f.num(1), part, -1));
-        }
-        onePart("a of IF", 0, (f, part) -> f.iff(part, f.num(1), f.num(2)));
-        onePart("b of IF", 0, (f, part) -> f.iff(f.num(1), part, f.num(2)));
-        onePart("c of IF", 0, (f, part) -> f.iff(f.num(0), f.num(2), part));
-        onePart("the first value of CALL", 0, (f, part) -> {
-            f.x.procedure(1, f.num(1), 1, 0);
-            return f.call(1, part);
-        });
-        onePart("the second value of CALL", 0, (f, part) -> {
-            f.x.procedure(1, f.num(1), 2, 0);
-            return f.call(1, f.num(1), part);
-        });
-        onePart("the body of CALL", 0, (f, part) -> {
-            f.x.procedure(1, part, 0, 0);
-            return f.call(1);
-        });
-        onePart("b of SET", 0, (f, part) -> f.set(f.var(6), part));
-        onePart("the row of SET", 0, (f, part) -> f.set(f.elem(part, f.num(1)), f.num(1)));
-        onePart("the column of SET", 0, (f, part) -> f.set(f.elem(f.num(1), part), f.num(1)));
-        onePart("a of THEN", 0, (f, part) -> f.then(part, f.num(1)));
-        onePart("b of THEN", 0, (f, part) -> f.then(f.num(1), part));
-        onePart("b of LABEL", 0, (f, part) -> f.label(2, part));
-        onePart("a of WHILE without an end", 8, (f, part) -> f.loop(part, f.num(1)));
-        onePart("b of WHILE without an end", 8, (f, part) -> f.loop(f.num(1), part));
-    }
-
-    /** The shape stands as the 79th: its part fits as the 80th, but not with an 81st inside of it. */
-    private static void onePart(String what, int dueFault, Shape shape) {
-        Forge fits = new Forge();
-        fits.x.put(4, 1);
-        int n = under78(fits, shape.around(fits, fits.var(4)));
-        if (dueFault == 0) {
-            Check.passes(what + " as the 80th", () -> fits.x.work(n));
-        } else {
-            fits.faults(what + " as the 80th", dueFault, n);
-        }
-        Forge deep = new Forge();
-        deep.x.put(4, 1);
-        int sum = deep.add(deep.var(4), deep.var(5));
-        deep.faults(what + " with an 81st", 7, under78(deep, shape.around(deep, sum)));
     }
 
     /** A loop of 42 turns is 4 + 7 * 42 = 298 nodes. */
