@@ -49,7 +49,7 @@ final class Doc {
         }
     }
 
-    /** The text of each section by its title up to a colon; the line of the face before a promise is left to FaceTest. */
+    /** The text of each section by its title up to a colon; the line of the face in a promise is left to FaceTest. */
     private static Map<String, String> read() {
         Map<String, String> sections = new TreeMap<>();
         String title = "";

@@ -1,6 +1,8 @@
 /** The edges of promises 6 to 11: work, the calls that only tell, clear and count. */
 final class EdgesOfAnswers {
-    private static final int[] FAR = {Integer.MIN_VALUE, Integer.MIN_VALUE + 1, Integer.MAX_VALUE - 1, Integer.MAX_VALUE};
+    private static final int[] FAR = {
+        Integer.MIN_VALUE, Integer.MIN_VALUE + 1, Integer.MAX_VALUE - 1, Integer.MAX_VALUE
+    };
 
     private EdgesOfAnswers() {
     }

@@ -102,7 +102,8 @@ final class EdgesOfCalls {
 
     /** Procedure 0 has local 0 = 2 and parameter 0 = 7, procedure 1 has 30 and what procedure 0 gives. */
     private static void byNameWhereTheCallStands() {
-        Doc.says(TERMS, "by NAME that of the NODE that was given, worked out in the ENVIRONMENT in which the CALL stands.");
+        Doc.says(TERMS, "by NAME that of the NODE that was given,"
+                + " worked out in the ENVIRONMENT in which the CALL stands.");
         Forge f = new Forge();
         int l = f.local(0);
         int p = f.par(0);

@@ -171,7 +171,8 @@ final class EdgesOfFaults {
     }
 
     private static void noNodeForAParameter() {
-        Doc.says(TERMS, "or without a NODE for one of its PARAMETERS (before anything of it is worked out), a FAULT 4;");
+        Doc.says(TERMS, "or without a NODE for one of its PARAMETERS"
+                + " (before anything of it is worked out), a FAULT 4;");
         boolean[][] given = {{false, false}, {true, false}, {false, true}, {true, true}};
         for (int n = 0; n <= 2; n++) {
             for (int names = 0; names <= 3; names++) {

@@ -1,6 +1,8 @@
-/** The edges of promises 1 to 5: the calls that make and change, each with what it refuses and what a refusal leaves. */
+/** The edges of promises 1 to 5: the calls that make and change, what they refuse and what a refusal leaves. */
 final class EdgesOfPromises {
-    private static final int[] FAR = {Integer.MIN_VALUE, Integer.MIN_VALUE + 1, Integer.MAX_VALUE - 1, Integer.MAX_VALUE};
+    private static final int[] FAR = {
+        Integer.MIN_VALUE, Integer.MIN_VALUE + 1, Integer.MAX_VALUE - 1, Integer.MAX_VALUE
+    };
 
     private EdgesOfPromises() {
     }
@@ -208,7 +210,8 @@ final class EdgesOfPromises {
     }
 
     private static void procedureRefuses() {
-        Doc.says("Promise 3", "IllegalArgumentException if p, body (a NODE), n (0 to 2) or names (0 to 3) is not as said.");
+        Doc.says("Promise 3", "IllegalArgumentException if p, body (a NODE), n (0 to 2) or names (0 to 3)"
+                + " is not as said.");
         int[] most = {3, 2, 2, 3};
         for (int place = 0; place < 4; place++) {
             procedureWith(place, 0, true);
