@@ -3,7 +3,8 @@ import java.util.Random;
 /** Programs that nobody chose, worked out by NameForge and by the Oracle: each answer and all that is left agree. */
 final class AnyProgramTest {
     private static final int PROGRAMS = 20000;
-    private static final int WORKS = 12;
+    // More works would need more than 512 calls of one object, since all that they leave is asked for behind each.
+    private static final int WORKS = 10;
 
     private final Random random;
     private final NameForge x = new NameForge();
@@ -31,10 +32,10 @@ final class AnyProgramTest {
         for (int i = 0; i < 8; i++) {
             double v = random.nextInt(9) == 0 ? 1e9 - random.nextInt(3) : (random.nextInt(81) - 40) / 8.0;
             x.put(i, v);
-            oracle.variables[i] = i < 4 ? Math.floor(v + 0.5) : v;
+            oracle.put(i, v);
         }
         int size = 6 + random.nextInt(43);
-        while (oracle.size < size) {
+        while (oracle.count(0) < size) {
             addNode();
         }
         for (int i = 0; i < WORKS; i++) {
@@ -51,19 +52,20 @@ final class AnyProgramTest {
         int high = low + random.nextInt(5);
         int high2 = low2 + random.nextInt(5);
         x.bounds(low, high, low2, high2);
-        oracle.bounds = new int[] {low, high, low2, high2};
+        oracle.bounds(low, high, low2, high2);
     }
 
     /** Mostly one of the latest nodes, so that programs are deep as well as wide. */
     private int anyNode() {
-        int latest = oracle.size - 1 - random.nextInt(Math.min(oracle.size, 8));
-        return random.nextInt(3) == 0 ? random.nextInt(oracle.size) : latest;
+        int size = oracle.count(0);
+        int latest = size - 1 - random.nextInt(Math.min(size, 8));
+        return random.nextInt(3) == 0 ? random.nextInt(size) : latest;
     }
 
     private int anySettable() {
         for (int tries = 0; tries < 20; tries++) {
-            int n = random.nextInt(oracle.size);
-            int kind = oracle.nodes[n][0];
+            int n = random.nextInt(oracle.count(0));
+            int kind = oracle.node(n, 0);
             if (kind == 1 || kind == 2 || kind == 10 || kind == 11) {
                 return n;
             }
@@ -73,7 +75,7 @@ final class AnyProgramTest {
 
     private void addNode() {
         int leaf = new int[] {0, 0, 1, 1, 10, 11, 16}[random.nextInt(7)];
-        int kind = oracle.size < 4 || random.nextInt(5) == 0 ? leaf : random.nextInt(18);
+        int kind = oracle.count(0) < 4 || random.nextInt(5) == 0 ? leaf : random.nextInt(18);
         if (kind == 6 && random.nextInt(3) > 0) {
             kind = 12;
         }
@@ -110,8 +112,7 @@ final class AnyProgramTest {
                 break;
         }
         x.make(kind, a, b, c);
-        oracle.nodes[oracle.size] = new int[] {kind, a, b, c};
-        oracle.size++;
+        oracle.make(kind, a, b, c);
     }
 
     private void defineProcedures() {
@@ -121,38 +122,14 @@ final class AnyProgramTest {
                 int n = Math.min(2, random.nextInt(4));
                 int names = random.nextInt(4);
                 x.procedure(p, body, n, names);
-                oracle.bodies[p] = body;
-                oracle.parameters[p] = n;
-                oracle.names[p] = names;
+                oracle.procedure(p, body, n, names);
             }
         }
     }
 
     private void compare(String what, int n, int[] seen) {
-        double want = oracle.work(n);
-        int fault = oracle.counts[3];
-        seen[fault]++;
-        if (fault == 0) {
-            Check.due(what, want, () -> x.work(n));
-        } else {
-            Check.refused(what, Forge.exceptionOf(fault), () -> x.work(n));
-        }
-        for (int number = 2; number <= 6; number++) {
-            int asked = number;
-            Check.due(what + ": count(" + number + ")", oracle.counts[number], () -> x.count(asked));
-        }
-        for (int i = 0; i < 8; i++) {
-            int asked = i;
-            Check.due(what + ": variable(" + i + ")", oracle.variables[i], () -> x.variable(asked));
-        }
-        int[] bounds = oracle.bounds;
-        for (int row = bounds[0]; row <= bounds[1]; row++) {
-            for (int column = bounds[2]; column <= bounds[3]; column++) {
-                int i = row;
-                int j = column;
-                double element = oracle.table[row + 9][column + 9];
-                Check.due(what + ": element(" + i + ", " + j + ")", element, () -> x.element(i, j));
-            }
-        }
+        Check.same(what, () -> oracle.work(n), () -> x.work(n));
+        seen[oracle.count(3)]++;
+        oracle.compareState(what, x);
     }
 }

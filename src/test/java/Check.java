@@ -24,6 +24,18 @@ final class Check {
         }
     }
 
+    /** The call answers, or throws, what the model does. */
+    static void same(String what, Call model, Call call) {
+        double want;
+        try {
+            want = model.answer();
+        } catch (RuntimeException e) {
+            refused(what, e.getClass(), () -> call.answer());
+            return;
+        }
+        due(what, want, call);
+    }
+
     static void passes(String what, Step step) {
         try {
             step.run();

@@ -3,6 +3,7 @@ import java.io.UncheckedIOException;
 import java.nio.file.Files;
 import java.nio.file.Path;
 import java.util.Arrays;
+import java.util.List;
 import java.util.Map;
 import java.util.TreeMap;
 
@@ -64,9 +65,13 @@ final class Doc {
         return sections;
     }
 
-    private static Iterable<String> lines() {
+    static List<String> lines() {
+        return linesOf(PLACE);
+    }
+
+    static List<String> linesOf(Path place) {
         try {
-            return Files.readAllLines(PLACE);
+            return Files.readAllLines(place);
         } catch (IOException e) {
             throw new UncheckedIOException(e);
         }

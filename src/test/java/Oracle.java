@@ -1,9 +1,18 @@
+import java.util.Arrays;
+import java.util.NoSuchElementException;
+
 /**
- * The document's language once more, as plainly as the whole of Java allows: an exception for each fault and each
- * jump, and a new object for each environment. Tests compare it with NameForge on programs that nobody chose.
+ * The document once more, as plainly as the whole of Java allows: an exception for each fault and each jump, and a new
+ * object for each environment. Tests compare it with NameForge on calls and programs that nobody chose.
  */
 final class Oracle {
-    static final class Fault extends RuntimeException {
+    /** Parts a, b, c of each kind: * any number, # a node, ? a node or none, . not looked at, a digit: below that. */
+    private static final String[] PARTS = {
+        "*..", "8..", "##.", "##.", "##.", "##.", "##.", "##.", "##.", "###",
+        "2..", "2..", "4??", "##.", "##.", "##.", "4..", "4#."
+    };
+
+    private static final class Fault extends RuntimeException {
         private static final long serialVersionUID = 1;
         final int number;
 
@@ -12,7 +21,7 @@ final class Oracle {
         }
     }
 
-    static final class Jump extends RuntimeException {
+    private static final class Jump extends RuntimeException {
         private static final long serialVersionUID = 1;
         final int label;
 
@@ -21,7 +30,7 @@ final class Oracle {
         }
     }
 
-    static final class Scope {
+    private static final class Scope {
         final Scope caller;
         final int procedure;
         final int[] given;
@@ -36,27 +45,172 @@ final class Oracle {
         }
     }
 
-    final int[][] nodes = new int[48][];
-    int size = 0;
-    final int[] bodies = {-1, -1, -1, -1};
-    final int[] parameters = new int[4];
-    final int[] names = new int[4];
-    final double[] variables = new double[8];
-    int[] bounds = {1, 1, 1, 1};
-    final double[][] table = new double[19][19];
+    private final int[][] nodes = new int[48][];
+    private int size = 0;
+    private final int[] bodies = {-1, -1, -1, -1};
+    private final int[] parameters = new int[4];
+    private final int[] names = new int[4];
+    private final double[] variables = new double[8];
+    private int[] bounds = {1, 1, 1, 1};
+    private final double[][] table = new double[19][19];
 
     /** The answers of count about the latest work, by its number. */
-    final int[] counts = new int[7];
+    private final int[] counts = new int[7];
     private final int[] openLabels = new int[4];
 
+    int make(int kind, int a, int b, int c) {
+        require(kind >= 0 && kind <= 17);
+        int[] parts = {a, b, c};
+        for (int i = 0; i < 3; i++) {
+            char sort = PARTS[kind].charAt(i);
+            require(isPart(parts[i], sort));
+            parts[i] = sort == '.' ? -1 : parts[i];
+        }
+        if (size == 48) {
+            throw new IllegalStateException();
+        }
+        nodes[size] = new int[] {kind, parts[0], parts[1], parts[2]};
+        return size++;
+    }
+
+    private boolean isPart(int part, char sort) {
+        switch (sort) {
+            case '*':
+            case '.':
+                return true;
+            case '#':
+                return isNode(part);
+            case '?':
+                return part == -1 || isNode(part);
+            default:
+                return part >= 0 && part < sort - '0';
+        }
+    }
+
+    private boolean isNode(int n) {
+        return n >= 0 && n < size;
+    }
+
+    private static void require(boolean isAsSaid) {
+        if (!isAsSaid) {
+            throw new IllegalArgumentException();
+        }
+    }
+
+    void procedure(int p, int body, int n, int byName) {
+        require(p >= 0 && p <= 3 && isNode(body) && n >= 0 && n <= 2 && byName >= 0 && byName <= 3);
+        bodies[p] = body;
+        parameters[p] = n;
+        names[p] = byName;
+    }
+
+    int bounds(int... ends) {
+        for (int end : ends) {
+            require(end >= -9 && end <= 9);
+        }
+        require(ends[0] <= ends[1] && ends[1] <= ends[0] + 4 && ends[2] <= ends[3] && ends[3] <= ends[2] + 4);
+        bounds = ends;
+        for (double[] row : table) {
+            Arrays.fill(row, 0);
+        }
+        return elements();
+    }
+
+    private int elements() {
+        return (bounds[1] - bounds[0] + 1) * (bounds[3] - bounds[2] + 1);
+    }
+
+    double put(int i, double v) {
+        double was = variable(i);
+        require(Math.abs(v) <= 1e9);
+        variables[i] = i <= 3 ? Math.floor(v + 0.5) : v;
+        return was;
+    }
+
     double work(int n) {
-        java.util.Arrays.fill(counts, 0);
-        java.util.Arrays.fill(openLabels, 0);
+        require(isNode(n));
+        Arrays.fill(counts, 0);
+        Arrays.fill(openLabels, 0);
         try {
             return value(n, null, 1, 0);
         } catch (Fault fault) {
             counts[3] = fault.number;
-            return 0;
+        }
+        switch (counts[3]) {
+            case 1:
+            case 2:
+                throw new ArithmeticException();
+            case 3:
+                throw new IndexOutOfBoundsException();
+            case 5:
+                throw new NoSuchElementException();
+            case 7:
+            case 8:
+                throw new IllegalStateException();
+            default:
+                throw new UnsupportedOperationException();
+        }
+    }
+
+    double variable(int i) {
+        require(i >= 0 && i <= 7);
+        return variables[i];
+    }
+
+    double element(int i, int j) {
+        if (i < bounds[0] || i > bounds[1] || j < bounds[2] || j > bounds[3]) {
+            throw new IndexOutOfBoundsException();
+        }
+        return table[i + 9][j + 9];
+    }
+
+    int node(int n, int what) {
+        require(what >= 0 && what <= 3);
+        if (!isNode(n)) {
+            throw new IndexOutOfBoundsException();
+        }
+        return nodes[n][what];
+    }
+
+    int clear() {
+        int were = size;
+        size = 0;
+        Arrays.fill(bodies, -1);
+        return were;
+    }
+
+    int count(int what) {
+        require(what >= 0 && what <= 6);
+        return what == 0 ? size : what == 1 ? elements() : counts[what];
+    }
+
+    /** All that count, variable and element can tell is the same; takes 40 calls at most. */
+    void compareState(String what, NameForge x) {
+        for (int i = 0; i <= 6; i++) {
+            int asked = i;
+            Check.same(what + ": count(" + i + ")", () -> count(asked), () -> x.count(asked));
+        }
+        for (int i = 0; i <= 7; i++) {
+            int asked = i;
+            Check.same(what + ": variable(" + i + ")", () -> variable(asked), () -> x.variable(asked));
+        }
+        for (int row = bounds[0]; row <= bounds[1]; row++) {
+            for (int column = bounds[2]; column <= bounds[3]; column++) {
+                int i = row;
+                int j = column;
+                Check.same(what + ": element(" + i + ", " + j + ")", () -> element(i, j), () -> x.element(i, j));
+            }
+        }
+    }
+
+    /** All that node can tell is the same; takes 196 calls at most. */
+    void compareNodes(String what, NameForge x) {
+        for (int n = 0; n <= size; n++) {
+            for (int asked = 0; asked <= 3; asked++) {
+                int i = n;
+                int part = asked;
+                Check.same(what + ": node(" + i + ", " + part + ")", () -> node(i, part), () -> x.node(i, part));
+            }
         }
     }
 
